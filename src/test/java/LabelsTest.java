@@ -18,6 +18,7 @@ public final class LabelsTest {
         promise14PlaceBesideLabelsSet();
         promise15Tidy();
         promise15TidyAfterRanks();
+        promise15TidyBetween();
         promise16Undo();
         promise16UndoRestoresEverything();
         due.end();
@@ -141,6 +142,31 @@ public final class LabelsTest {
         due.is("remove(0)", x.remove(0), 0);
         due.is("undo()", x.undo(), 4);
         starts(x, 6);
+        promise13RemoveOf20();
+    }
+
+    private static void promise13RemoveOf20() {
+        RiverNames x = new RiverNames();
+        x.addRiver(1, 0, 0, 5, 0);
+        Due.flow(x, 0, "0".repeat(30));
+        x.setGap(0);
+        for (int i = 0; i < 20; i++) {
+            x.set(0, i);
+        }
+        due.is("remove(5) of 20", x.remove(5), 19);
+        due.is("remove(19) of 19", x.remove(19), WRONG);
+        due.is("remove(18) of 19", x.remove(18), 18);
+        due.is("label(4, 1)", x.label(4, 1), 4);
+        due.is("label(5, 1)", x.label(5, 1), 6);
+        due.is("label(17, 1)", x.label(17, 1), 18);
+        for (int i = 0; i < 6; i++) {
+            x.remove(0);
+            due.is("set(0, 25) behind a removal", x.set(0, 25), 17);
+            due.is("label(16, 1)", x.label(16, 1), 18);
+            x.undo();
+            x.undo();
+        }
+        due.is("remove(0)", x.remove(0), 17);
     }
 
     private static void promise14PlaceRepeats() {
@@ -265,6 +291,21 @@ public final class LabelsTest {
         due.is("label(0, 6)", x.label(0, 6), 3);
         due.is("tidy() over a town", x.tidy(), 1);
         due.is("count(2)", x.count(2), 0);
+    }
+
+    private static void promise15TidyBetween() {
+        RiverNames x = straight();
+        x.setGap(0);
+        x.set(0, 6);
+        x.set(0, 0);
+        x.set(0, 3);
+        x.addTown(6, 5, 1, 1, 8);
+        due.is("label(1, 6)", x.label(1, 6), 3);
+        due.is("tidy() of the middle one", x.tidy(), 1);
+        starts(x, 6, 3);
+        x.addTown(8, 4, 1, 2, 8);
+        due.is("tidy() of the last one", x.tidy(), 1);
+        starts(x, 6);
     }
 
     private static void promise16Undo() {

@@ -46,6 +46,10 @@ public final class LookingTest {
         due.is("count(5)", x.count(5), 0);
         due.is("count(6)", x.count(6), 2);
         due.is("count(7) of areas that share cells", x.count(7), 8 * 3);
+        due.is("count(7) again", x.count(7), 8 * 3);
+        due.is("label(0, 5) behind it", x.label(0, 5), 5 * 3);
+        due.is("river(1, 5) behind it", x.river(1, 5), 1);
+        due.is("count(7) behind all", x.count(7), 8 * 3);
         due.is("count(8)", x.count(8), 5);
         due.is("count(9)", x.count(9), 1);
         due.is("count(10)", x.count(10), WRONG);
@@ -143,6 +147,18 @@ public final class LookingTest {
         due.is("town(4, 5) right of a halo", x.town(4, 5), 0);
         x.addTown(21, 9, 1, 1, 4);
         due.is("town(5, 5) at the other corner of a halo", x.town(5, 5), 1);
+        promise21TownBesideLetters();
+    }
+
+    private static void promise21TownBesideLetters() {
+        RiverNames x = named("ab", 10, 10, 9, 0, "0000000000");
+        x.set(0, 4);
+        for (int i = 0; i < 4; i++) {
+            x.addTown(13 + i, 10, 1, 1, 5);
+            due.is("town(" + i + ", 5) along the river", x.town(i, 5), i == 1 || i == 2 ? 1 : 0);
+        }
+        due.is("label(0, 7)", x.label(0, 7), 2);
+        due.is("label(0, 6)", x.label(0, 6), 0);
     }
 
     private static void promise22Label() {

@@ -133,6 +133,12 @@ public final class RiversAndTownsTest {
         loads(";", -1000);
         loads("5", -1000);
         loads("River", -1000);
+        loads("xiver a 0 0 1 0 0;", -1000);
+        loads("rivex a 0 0 1 0 0;", -1000);
+        loads("down 0 0 1 1 1;", -1000);
+        loads("towm 0 0 1 1 1;", -1000);
+        loads("rive r a 0 0 1 0 0;", -1000);
+        loads("river a 0 0 1 0 a;", -1016);
         loads("\t", -1000);
         loads("town 0 0 1 1 1;\u00e9", -1015);
         loads("river", -1005);
@@ -267,10 +273,15 @@ public final class RiversAndTownsTest {
         for (int i = 0; i < 4; i++) {
             x.undo();
         }
-        due.is("addRiver(2, 1, 1, 1, 0)", x.addRiver(2, 1, 1, 1, 0), 0);
-        due.is("river(0, 2)", x.river(0, 2), 2);
-        due.is("river(0, 3)", x.river(0, 3), 0);
-        due.is("cell(0, 1)", x.cell(0, 1), NONE);
+        for (int letters = 8; letters >= 1; letters--) {
+            due.is("addRiver(" + letters + ", 1, 1, 1, 0)", x.addRiver(letters, 1, 1, 1, 0), 0);
+            due.is("river(0, 2)", x.river(0, 2), letters);
+            due.is("river(0, 3)", x.river(0, 3), 0);
+            due.is("cell(0, 1)", x.cell(0, 1), NONE);
+            due.is("flow(0, 2)", x.flow(0, 2), 1);
+            x.undo();
+            x.undo();
+        }
     }
 
     private static void promise06AddTown() {

@@ -92,6 +92,9 @@ public final class StretchesTest {
         }
         x.setGap(60);
         due.is("reason(0, 0) in the widest gap", x.reason(0, 0), 2);
+        RiverNames y = named("ab", 10, 10, 1, 0, "00");
+        due.is("reason(0, 0) of the lowest rank", y.reason(0, 0), 0);
+        due.is("best(0, 0) of the lowest rank", y.best(0, 0), 0);
     }
 
     private static void promise26ReasonOrder() {
