@@ -27,6 +27,14 @@ final class Due {
         }
     }
 
+    /** A desk with one river, read from a text. */
+    RiverNames named(String name, int x, int y, int rank, int halo, String moves) {
+        RiverNames desk = new RiverNames();
+        write(desk, "river " + name + " " + x + " " + y + " " + rank + " " + halo + " " + moves + ";");
+        is("load() of " + name, desk.load(), 1);
+        return desk;
+    }
+
     /** Lengthens a river by a move for each digit. */
     static void flow(RiverNames desk, int river, String moves) {
         for (int i = 0; i < moves.length(); i++) {

@@ -21,15 +21,8 @@ public final class LookingTest {
         due.end();
     }
 
-    private static RiverNames named(String name, int x, int y, int rank, int halo, String moves) {
-        RiverNames desk = new RiverNames();
-        Due.write(desk, "river " + name + " " + x + " " + y + " " + rank + " " + halo + " " + moves + ";");
-        due.is("load() of " + name, desk.load(), 1);
-        return desk;
-    }
-
     private static void promise17Count() {
-        RiverNames x = named("abc", 10, 10, 5, 1, "0000000000");
+        RiverNames x = due.named("abc", 10, 10, 5, 1, "0000000000");
         x.addRiver(2, 10, 20, 4, 0);
         x.addTown(0, 0, 2, 2, 5);
         x.addTown(1, 1, 2, 2, 5);
@@ -59,7 +52,7 @@ public final class LookingTest {
     }
 
     private static void promise17CountCosts() {
-        RiverNames x = named("abc", 10, 10, 5, 0, "00000000120");
+        RiverNames x = due.named("abc", 10, 10, 5, 0, "00000000120");
         x.setGap(0);
         x.set(0, 0);
         due.is("count(4)", x.count(4), 9);
@@ -71,7 +64,7 @@ public final class LookingTest {
     }
 
     private static void promise18River() {
-        RiverNames x = named("abcde", 10, 10, 7, 2, "0246");
+        RiverNames x = due.named("abcde", 10, 10, 7, 2, "0246");
         int[] properties = {7, 2, 5, 4, 0, 4, 6};
         for (int what = 0; what < properties.length; what++) {
             due.is("river(0, " + what + ")", x.river(0, what), properties[what]);
@@ -86,13 +79,13 @@ public final class LookingTest {
         due.is("river(1, 4)", x.river(1, 4), 0);
         due.is("river(1, 5) of one place", x.river(1, 5), 1);
         due.is("river(1, 6) of one place", x.river(1, 6), 0);
-        RiverNames y = named("a", 10, 10, 7, 2, "0704350");
+        RiverNames y = due.named("a", 10, 10, 7, 2, "0704350");
         due.is("turns 1 + 1 + 4 + 1 + 2 + 3", y.river(0, 6), 12);
         due.is("different cells", y.river(0, 5), 6);
     }
 
     private static void promise19Cell() {
-        RiverNames x = named("a", 58, 0, 1, 0, "123");
+        RiverNames x = due.named("a", 58, 0, 1, 0, "123");
         int[] cells = {5800, 5901, 5902, 5803};
         for (int place = 0; place < cells.length; place++) {
             due.is("cell(0, " + place + ")", x.cell(0, place), cells[place]);
@@ -106,7 +99,7 @@ public final class LookingTest {
     }
 
     private static void promise20Letter() {
-        RiverNames x = named("rhine", 0, 0, 1, 0, "0");
+        RiverNames x = due.named("rhine", 0, 0, 1, 0, "0");
         for (int i = 0; i < 5; i++) {
             due.is("letter(0, " + i + ")", x.letter(0, i), "rhine".charAt(i));
         }
@@ -118,7 +111,7 @@ public final class LookingTest {
     }
 
     private static void promise21Town() {
-        RiverNames x = named("ab", 10, 10, 9, 1, "0000000000");
+        RiverNames x = due.named("ab", 10, 10, 9, 1, "0000000000");
         x.addTown(12, 11, 12, 3, 4);
         int[] properties = {12, 11, 12, 3, 4, 0};
         for (int what = 0; what < properties.length; what++) {
@@ -151,7 +144,7 @@ public final class LookingTest {
     }
 
     private static void promise21TownBesideLetters() {
-        RiverNames x = named("ab", 10, 10, 9, 0, "0000000000");
+        RiverNames x = due.named("ab", 10, 10, 9, 0, "0000000000");
         x.set(0, 4);
         for (int i = 0; i < 4; i++) {
             x.addTown(13 + i, 10, 1, 1, 5);
@@ -162,7 +155,7 @@ public final class LookingTest {
     }
 
     private static void promise22Label() {
-        RiverNames x = named("abcd", 10, 10, 5, 0, "0012100");
+        RiverNames x = due.named("abcd", 10, 10, 5, 0, "0012100");
         due.is("label(0, 0) of none", x.label(0, 0), WRONG);
         due.is("set(0, 1)", x.set(0, 1), 0);
         int[] properties = {0, 1, 22, 2, 0, 4, 0, 0};
@@ -180,7 +173,7 @@ public final class LookingTest {
     }
 
     private static void turned(String name, String moves, int want) {
-        RiverNames x = named(name, 20, 20, 5, 0, moves);
+        RiverNames x = due.named(name, 20, 20, 5, 0, moves);
         due.is("set(0, 0)", x.set(0, 0), 0);
         due.is("label(0, 4) of " + name + " on " + moves, x.label(0, 4), want);
     }
@@ -224,7 +217,7 @@ public final class LookingTest {
     }
 
     private static void promise22LabelReasonAndTowns() {
-        RiverNames x = named("ab", 10, 10, 5, 0, "0000000000");
+        RiverNames x = due.named("ab", 10, 10, 5, 0, "0000000000");
         x.setGap(0);
         x.set(0, 0);
         x.set(0, 2);
@@ -263,18 +256,18 @@ public final class LookingTest {
     }
 
     private static void promise23Written() {
-        RiverNames x = named("rhine", 10, 10, 5, 1, "000000");
+        RiverNames x = due.named("rhine", 10, 10, 5, 1, "000000");
         written(x, 9, 10, ".........");
         x.set(0, 1);
         written(x, 9, 10, "..rhine.");
         written(x, 9, 9, "........");
-        RiverNames y = named("rhine", 16, 10, 5, 1, "444444");
+        RiverNames y = due.named("rhine", 16, 10, 5, 1, "444444");
         y.set(0, 1);
         written(y, 9, 10, "..rhine.");
-        RiverNames z = named("abc", 10, 10, 5, 0, "04");
+        RiverNames z = due.named("abc", 10, 10, 5, 0, "04");
         z.set(0, 0);
         written(z, 10, 10, "ab");
-        RiverNames t = named("abcd", 10, 10, 5, 0, "404");
+        RiverNames t = due.named("abcd", 10, 10, 5, 0, "404");
         t.set(0, 0);
         due.is("label(0, 4)", t.label(0, 4), 1);
         written(t, 9, 10, "cd");
@@ -286,7 +279,7 @@ public final class LookingTest {
     }
 
     private static void promise23WrittenByRank() {
-        RiverNames x = named("abc", 10, 10, 5, 0, "00");
+        RiverNames x = due.named("abc", 10, 10, 5, 0, "00");
         Due.write(x, "river xyz 8 10 6 0 00;river uv 10 9 7 0 2;");
         due.is("load()", x.load(), 2);
         x.set(0, 0);
@@ -307,7 +300,7 @@ public final class LookingTest {
     }
 
     private static void looksAreNoActions() {
-        RiverNames x = named("abc", 10, 10, 5, 0, "00000");
+        RiverNames x = due.named("abc", 10, 10, 5, 0, "00000");
         x.set(0, 1);
         x.count(5);
         x.count(7);

@@ -17,15 +17,8 @@ public final class StretchesTest {
         due.end();
     }
 
-    private static RiverNames named(String name, int x, int y, int rank, int halo, String moves) {
-        RiverNames desk = new RiverNames();
-        Due.write(desk, "river " + name + " " + x + " " + y + " " + rank + " " + halo + " " + moves + ";");
-        due.is("load() of " + name, desk.load(), 1);
-        return desk;
-    }
-
     private static void promise24Bend() {
-        RiverNames x = named("a", 20, 20, 5, 0, "00170442");
+        RiverNames x = due.named("a", 20, 20, 5, 0, "00170442");
         int[] turns = {0, 1, 2, 1, 4, 0, 2};
         for (int start = 0; start <= 8; start++) {
             due.is("bend(0, " + start + ", 1)", x.bend(0, start, 1), 0);
@@ -44,10 +37,10 @@ public final class StretchesTest {
         due.is("bend(0, 0, 62)", x.bend(0, 0, 62), WRONG);
         due.is("bend(1, 0, 1)", x.bend(1, 0, 1), WRONG);
         due.is("bend(-1, 0, 1)", x.bend(-1, 0, 1), WRONG);
-        RiverNames y = named("a", 20, 20, 5, 0, "04".repeat(30));
+        RiverNames y = due.named("a", 20, 20, 5, 0, "04".repeat(30));
         due.is("bend(0, 0, 61)", y.bend(0, 0, 61), 59 * 4);
         due.is("bend(0, 60, 1)", y.bend(0, 60, 1), 0);
-        RiverNames z = named("a", 20, 20, 5, 0, "0503060107");
+        RiverNames z = due.named("a", 20, 20, 5, 0, "0503060107");
         int[] eights = {3, 3, 3, 3, 2, 2, 1, 1, 1};
         for (int start = 0; start < eights.length; start++) {
             due.is("bend(0, " + start + ", 3)", z.bend(0, start, 3), eights[start]);
@@ -55,7 +48,7 @@ public final class StretchesTest {
     }
 
     private static void promise25Straightest() {
-        RiverNames x = named("a", 20, 20, 5, 0, "0122224566666");
+        RiverNames x = due.named("a", 20, 20, 5, 0, "0122224566666");
         due.is("straightest(0, 1)", x.straightest(0, 1), 0);
         due.is("straightest(0, 2)", x.straightest(0, 2), 0);
         due.is("straightest(0, 3)", x.straightest(0, 3), 2);
@@ -69,13 +62,13 @@ public final class StretchesTest {
         due.is("straightest(0, 62)", x.straightest(0, 62), WRONG);
         due.is("straightest(1, 1)", x.straightest(1, 1), WRONG);
         due.is("straightest(-1, 1)", x.straightest(-1, 1), WRONG);
-        RiverNames y = named("a", 20, 20, 5, 0, "04".repeat(30));
+        RiverNames y = due.named("a", 20, 20, 5, 0, "04".repeat(30));
         due.is("straightest(0, 61)", y.straightest(0, 61), 0);
         due.is("straightest(0, 60)", y.straightest(0, 60), 0);
     }
 
     private static void promise26Reason() {
-        RiverNames x = named("abc", 10, 10, 5, 0, "00000000");
+        RiverNames x = due.named("abc", 10, 10, 5, 0, "00000000");
         due.is("reason(0, 0)", x.reason(0, 0), 0);
         due.is("reason(0, 6)", x.reason(0, 6), 0);
         due.is("reason(0, 7)", x.reason(0, 7), 1);
@@ -92,13 +85,13 @@ public final class StretchesTest {
         }
         x.setGap(60);
         due.is("reason(0, 0) in the widest gap", x.reason(0, 0), 2);
-        RiverNames y = named("ab", 10, 10, 1, 0, "00");
+        RiverNames y = due.named("ab", 10, 10, 1, 0, "00");
         due.is("reason(0, 0) of the lowest rank", y.reason(0, 0), 0);
         due.is("best(0, 0) of the lowest rank", y.best(0, 0), 0);
     }
 
     private static void promise26ReasonOrder() {
-        RiverNames x = named("ab", 10, 10, 5, 0, "000000");
+        RiverNames x = due.named("ab", 10, 10, 5, 0, "000000");
         Due.write(x, "river x 12 10 6 0 0;");
         x.load();
         x.setGap(0);
@@ -122,7 +115,7 @@ public final class StretchesTest {
     }
 
     private static void promise26ReasonAreas() {
-        RiverNames x = named("a", 10, 10, 5, 1, "0");
+        RiverNames x = due.named("a", 10, 10, 5, 1, "0");
         Due.write(x, "river b 14 10 5 2 0;river c 13 13 5 1 0;");
         x.load();
         x.set(1, 0);
@@ -145,20 +138,20 @@ public final class StretchesTest {
     }
 
     private static void promise27Best() {
-        RiverNames x = named("abc", 10, 10, 5, 0, "000000000");
+        RiverNames x = due.named("abc", 10, 10, 5, 0, "000000000");
         due.is("best(0, 0)", x.best(0, 0), 3);
         due.is("best(0, 1)", x.best(0, 1), 1);
         due.is("best(0, 2)", x.best(0, 2), WRONG);
         due.is("best(0, -1)", x.best(0, -1), WRONG);
         due.is("best(1, 0)", x.best(1, 0), WRONG);
         due.is("best(-1, 0)", x.best(-1, 0), WRONG);
-        RiverNames y = named("abc", 10, 10, 5, 0, "0000000010");
+        RiverNames y = due.named("abc", 10, 10, 5, 0, "0000000010");
         due.is("best(0, 0) before a bend", y.best(0, 0), 4);
         due.is("best(0, 1) before a bend", y.best(0, 1), 0);
-        RiverNames z = named("abcd", 10, 10, 5, 0, "010101000");
+        RiverNames z = due.named("abcd", 10, 10, 5, 0, "010101000");
         due.is("best(0, 0) behind bends", z.best(0, 0), 6);
         due.is("best(0, 1) behind bends", z.best(0, 1), 6);
-        RiverNames t = named("abcd", 10, 10, 5, 0, "00");
+        RiverNames t = due.named("abcd", 10, 10, 5, 0, "00");
         due.is("best(0, 0) of too short a river", t.best(0, 0), NONE);
         due.is("best(0, 1) of too short a river", t.best(0, 1), NONE);
         t.flow(0, 0);
@@ -166,7 +159,7 @@ public final class StretchesTest {
     }
 
     private static void promise27BestBesideOthers() {
-        RiverNames x = named("abc", 10, 10, 5, 0, "000000000");
+        RiverNames x = due.named("abc", 10, 10, 5, 0, "000000000");
         x.setGap(0);
         x.addTown(13, 10, 1, 1, 5);
         due.is("best(0, 0) beside a town", x.best(0, 0), 4);
@@ -187,7 +180,7 @@ public final class StretchesTest {
     }
 
     private static void promise28RankFor() {
-        RiverNames x = named("abc", 10, 10, 5, 0, "00");
+        RiverNames x = due.named("abc", 10, 10, 5, 0, "00");
         due.is("rankFor(0)", x.rankFor(0), 1);
         due.is("rankFor(1)", x.rankFor(1), WRONG);
         due.is("rankFor(-1)", x.rankFor(-1), WRONG);
@@ -205,12 +198,12 @@ public final class StretchesTest {
         x.setRank(0, 9);
         due.is("set(0, 0)", x.set(0, 0), 1);
         due.is("rankFor(0) beside its own label", x.rankFor(0), NONE);
-        RiverNames y = named("abc", 10, 10, 5, 0, "0");
+        RiverNames y = due.named("abc", 10, 10, 5, 0, "0");
         due.is("rankFor(0) of too short a river", y.rankFor(0), NONE);
     }
 
     private static void promise28RankForOfSeveral() {
-        RiverNames x = named("ab", 10, 10, 2, 1, "000000000");
+        RiverNames x = due.named("ab", 10, 10, 2, 1, "000000000");
         x.addTown(10, 12, 12, 1, 3);
         due.is("rankFor(0) beside the halo", x.rankFor(0), 1);
         x.setHalo(0, 2);
