@@ -31,9 +31,10 @@ final class Calls {
     static final int RANK_FOR = 26;
     static final int METHODS = 27;
 
-    private static final String[] NAMES = {"append", "clearText", "load", "addRiver", "addTown", "flow", "setRank",
+    static final String[] NAMES = {"append", "clearText", "load", "addRiver", "addTown", "flow", "setRank",
         "setHalo", "setTownRank", "setGap", "set", "remove", "place", "tidy", "undo", "count", "river", "cell",
         "letter", "town", "label", "written", "bend", "straightest", "reason", "best", "rankFor"};
+    static final int[] PARAMETERS = {1, 0, 0, 5, 5, 2, 2, 2, 2, 1, 2, 1, 1, 0, 0, 1, 2, 2, 2, 2, 2, 2, 3, 2, 2, 2, 1};
 
     /** How often each answer code and each method came, to see that the runs reach what they are for. */
     static final int[][] seen = new int[METHODS][5];
@@ -50,16 +51,16 @@ final class Calls {
     }
 
     int make(int method, int... args) {
-        int[] a = Arrays.copyOf(args, 5);
-        int got = onDesk(method, a);
-        int want = onModel(method, a);
+        int got = onDesk(desk, method, args);
+        int want = onModel(method, Arrays.copyOf(args, 5));
         made++;
         seen[method][want >= 0 ? 0 : want == -9 ? 4 : want < -3 ? 2 : -want]++;
         due.is("run " + run + ", call " + made + ": " + NAMES[method] + Arrays.toString(args), got, want);
         return want;
     }
 
-    private int onDesk(int method, int[] a) {
+    static int onDesk(RiverNames desk, int method, int... args) {
+        int[] a = Arrays.copyOf(args, 5);
         return switch (method) {
             case APPEND -> desk.append(a[0]);
             case CLEAR_TEXT -> desk.clearText();
