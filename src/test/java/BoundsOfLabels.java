@@ -21,7 +21,8 @@ final class BoundsOfLabels extends Bounds {
     }
 
     private void set() {
-        Story label = scene("Promise 12", "Sets a label. This is an action.").isAction("set 0 5", 3).call("set 0 5", 3);
+        Story label = scene("Promise 12", "Sets a label. This is an action.").isAction("set 0 5", 3)
+            .call("set 0 5", 3);
         label.looks("label 3 0", 0).looks("label 3 1", 5).looks("count 2", 4).looks("label 2 1", 10);
         scene("Promise 12", "river: a river").range("set * 5", 0, 3, 1, 3);
         sixty("Promise 12", "start: 0 to 60", 1).range("set 0 *", 0, 0, 60, 0);
@@ -30,7 +31,8 @@ final class BoundsOfLabels extends Bounds {
             number.call("set 0 " + 3 * i, i).looks("label " + i + " 1", 3 * i).looks("count 2", i + 1);
         }
         Story wrong = scene("Promise 12", "INVALID_ARGUMENT if an argument is out of range;");
-        wrong.refuses("set -1 5", WRONG).refuses("set 2 5", WRONG).refuses("set 0 -1", WRONG).refuses("set 0 61", WRONG);
+        wrong.refuses("set -1 5", WRONG).refuses("set 2 5", WRONG).refuses("set 0 -1", WRONG)
+            .refuses("set 0 61", WRONG);
         wrong.refuses("set 2 61", WRONG).refuses("set " + MOST + " 5", WRONG).refuses("set 0 " + LEAST, WRONG);
         story("Promise 12", "INVALID_ARGUMENT if an argument is out of range;").refuses("set 0 0", WRONG);
     }
@@ -67,35 +69,43 @@ final class BoundsOfLabels extends Bounds {
         label.branch().call("remove 1", 2).looks("label 0 1", 0).looks("label 1 1", 10).refuses("label 2 0", WRONG);
         label.branch().call("remove 2", 2).looks("label 0 1", 0).looks("label 1 0", 1).refuses("label 2 0", WRONG);
         scene("Promise 13", "label: a label").range("remove *", 0, 2, 2, 2);
-        scene("Promise 13", "Returns the number of labels then;").call("remove 2", 2).call("remove 0", 1).call("remove 0", 0)
+        scene("Promise 13", "Returns the number of labels then;").call("remove 2", 2).call("remove 0", 1)
+            .call("remove 0", 0)
             .looks("count 2", 0);
         Story none = scene("Promise 13", "INVALID_ARGUMENT if there is no such label.").refuses("remove 3", WRONG);
-        none.refuses("remove -1", WRONG).call("remove 2", 2).refuses("remove 2", WRONG).call("remove 0", 1).refuses("remove 1", WRONG);
+        none.refuses("remove -1", WRONG).call("remove 2", 2).refuses("remove 2", WRONG).call("remove 0", 1)
+            .refuses("remove 1", WRONG);
         none.call("remove 0", 0).refuses("remove 0", WRONG);
         story("Promise 13", "INVALID_ARGUMENT if there is no such label.").refuses("remove 0", WRONG);
     }
 
     private void removeOf20() {
-        Story label = sixty("Promise 13", "the numbers of those behind it become smaller by 1.", 1).call("setGap 0", 10);
+        Story label = sixty("Promise 13", "the numbers of those behind it become smaller by 1.", 1)
+            .call("setGap 0", 10);
         for (int i = 0; i < 20; i++) {
             label.call("set 0 " + i, i);
         }
         label.range("remove *", 0, 19, 19, 19);
-        label.branch().call("remove 0", 19).looks("label 0 1", 1).looks("label 18 1", 19).refuses("label 19 1", WRONG);
-        label.branch().call("remove 19", 19).looks("label 0 1", 0).looks("label 18 1", 18).refuses("remove 19", WRONG);
+        label.branch().call("remove 0", 19).looks("label 0 1", 1).looks("label 18 1", 19)
+            .refuses("label 19 1", WRONG);
+        label.branch().call("remove 19", 19).looks("label 0 1", 0).looks("label 18 1", 18)
+            .refuses("remove 19", WRONG);
         label.branch().call("remove 10", 19).looks("label 9 1", 9).looks("label 10 1", 11).call("set 0 10", 19)
             .looks("label 19 1", 10).refuses("set 0 40", FULL);
     }
 
     private void placeAnew() {
         Story label = scene("Promise 14", "Sets all labels anew: first, all are removed.").isAction("place 1", 2);
-        label.call("place 1", 2).looks("label 0 0", 1).looks("label 0 1", 4).looks("label 1 0", 0).looks("label 1 1", 5);
+        label.call("place 1", 2).looks("label 0 0", 1).looks("label 0 1", 4).looks("label 1 0", 0)
+            .looks("label 1 1", 5);
         label.call("place 1", 2).looks("label 0 1", 4).looks("label 1 1", 5);
         label.call("setRank 0 4", 5).call("addTown 10 10 12 1 9", 2).call("addTown 22 10 1 1 9", 3);
         label.call("place 1", 1).looks("label 0 0", 1).looks("count 6", 1);
         story("Promise 14", "first, all are removed.").call("place 5", 0).isAction("place 1", 0);
-        Story river = story("Promise 14", "first, all are removed.").call("addRiver 1 30 20 5 0", 0).call("set 0 0", 0);
-        river.call("addTown 30 20 1 1 5", 0).call("place 5", 0).looks("count 2", 0).call("undo", 3).looks("count 2", 1);
+        Story river = story("Promise 14", "first, all are removed.").call("addRiver 1 30 20 5 0", 0)
+            .call("set 0 0", 0);
+        river.call("addTown 30 20 1 1 5", 0).call("place 5", 0).looks("count 2", 0).call("undo", 3)
+            .looks("count 2", 1);
     }
 
     private void placeByRank() {
@@ -104,9 +114,11 @@ final class BoundsOfLabels extends Bounds {
         for (int river = 0; river < 6; river++) {
             label.call("addRiver 1 30 20 " + new int[] {1, 9, 5, 9, 5, 1}[river] + " 0", river);
         }
-        label.call("place 1", 1).looks("label 0 0", 1).call("setRank 1 8", 9).call("place 1", 1).looks("label 0 0", 3);
+        label.call("place 1", 1).looks("label 0 0", 1).call("setRank 1 8", 9).call("place 1", 1)
+            .looks("label 0 0", 3);
         label.call("setRank 3 4", 9).call("place 1", 1).looks("label 0 0", 1).call("setRank 1 1", 8);
-        label.call("place 1", 1).looks("label 0 0", 2).call("setRank 2 4", 5).call("place 1", 1).looks("label 0 0", 4);
+        label.call("place 1", 1).looks("label 0 0", 2).call("setRank 2 4", 5).call("place 1", 1)
+            .looks("label 0 0", 4);
         label.call("setRank 4 1", 5).call("place 1", 1).looks("label 0 0", 2).call("setRank 2 1", 4);
         label.call("setRank 3 1", 4).call("place 1", 1).looks("label 0 0", 0).looks("count 6", 62);
         Story apart = story("Promise 14", "of several the one with the smaller number;");
@@ -125,7 +137,8 @@ final class BoundsOfLabels extends Bounds {
             + "one", 1);
         label.call("place 5", 5).looks("label 0 1", 30).looks("label 1 1", 19).looks("label 2 1", 41);
         label.looks("label 3 1", 8).looks("label 4 1", 52).call("place 3", 3).looks("label 2 1", 41);
-        label.call("setGap 28", 10).call("place 5", 3).looks("label 0 1", 30).looks("label 1 1", 1).looks("label 2 1", 59);
+        label.call("setGap 28", 10).call("place 5", 3).looks("label 0 1", 30).looks("label 1 1", 1)
+            .looks("label 2 1", 59);
         label.call("setGap 60", 28).call("place 5", 1).looks("label 0 1", 30);
         label.call("setGap 59", 60).call("place 5", 1);
         sixty("Promise 14", "repeats: 1 to 5, how many labels a river gets at most", 1).range("place *", 1, 1, 5, 5);
@@ -135,11 +148,13 @@ final class BoundsOfLabels extends Bounds {
             number.call("place " + repeats, repeats).looks("count 2", repeats);
         }
         story("Promise 14", "Returns the number of labels then;").call("place 1", 0).call("place 5", 0);
-        scene("Promise 14", "INVALID_ARGUMENT if repeats is out of range.").refuses("place 0", WRONG).refuses("place 6", WRONG);
+        scene("Promise 14", "INVALID_ARGUMENT if repeats is out of range.").refuses("place 0", WRONG)
+            .refuses("place 6", WRONG);
     }
 
     private void placeUpTo20() {
-        Story label = story("Promise 14", "and there are fewer than 20 labels. This is an action.").call("setGap 0", 10);
+        Story label = story("Promise 14", "and there are fewer than 20 labels. This is an action.")
+            .call("setGap 0", 10);
         for (int river = 0; river < 4; river++) {
             label.call("addRiver 1 0 " + 5 * river + " 5 0", river).flow(river, "0000");
         }
@@ -147,7 +162,8 @@ final class BoundsOfLabels extends Bounds {
         for (int river = 4; river < 6; river++) {
             label.call("addRiver 1 0 " + 5 * river + " " + (river == 4 ? 5 : 9) + " 0", river).flow(river, "0000");
         }
-        label.call("place 5", 20).looks("label 0 0", 5).looks("label 4 0", 5).looks("label 5 0", 0).looks("label 19 0", 2);
+        label.call("place 5", 20).looks("label 0 0", 5).looks("label 4 0", 5).looks("label 5 0", 0)
+            .looks("label 19 0", 2);
         label.looks("count 6", 8 + 16).looks("count 2", 20).refuses("label 20 0", WRONG).refuses("set 3 0", FULL);
         label.call("place 4", 20).looks("label 19 0", 3).looks("count 6", 16).call("place 3", 18).looks("count 6", 0);
         label.isAction("place 5", 20);
@@ -162,7 +178,8 @@ final class BoundsOfLabels extends Bounds {
         for (int i = 0; i < 20; i++) {
             all.call("set 0 " + i, i);
         }
-        all.branch().call("tidy", 0).looks("count 2", 20).call("setGap 60", 0).call("tidy", 19).looks("label 0 1", 19);
+        all.branch().call("tidy", 0).looks("count 2", 20).call("setGap 60", 0).call("tidy", 19)
+            .looks("label 0 1", 19);
         all.branch().call("setGap 1", 0).call("tidy", 19).looks("count 2", 1).looks("label 0 1", 19);
         all.branch().call("addTown 0 0 2 1 5", 0).looks("count 5", 20).call("tidy", 20).looks("count 2", 0);
         all.branch().call("addTown 1 0 1 1 5", 0).looks("count 5", 10).call("tidy", 10).looks("label 9 1", 18);

@@ -38,7 +38,8 @@ final class BoundsOfMap extends Bounds {
         for (int river = 0; river < 4; river++) {
             map.call("set " + river + " 0", river);
         }
-        map.looks("written 0 0", 'a').looks("written 59 0", 'a').looks("written 0 39", 'a').looks("written 59 39", 'a');
+        map.looks("written 0 0", 'a').looks("written 59 0", 'a').looks("written 0 39", 'a')
+            .looks("written 59 39", 'a');
         map.looks("written 1 1", NONE).looks("written 58 38", NONE);
         map.refuses("written -1 0", WRONG).refuses("written 60 0", WRONG);
         map.refuses("written 0 -1", WRONG).refuses("written 0 40", WRONG);
@@ -135,10 +136,13 @@ final class BoundsOfMap extends Bounds {
         flows.call("addRiver 1 30 20 5 0", 0).looks("river 0 3", 0).looks("cell 0 0", 3020).looks("cell 0 1", NONE);
         flows.flow(0, SIXTY).looks("river 0 3", 60).looks("cell 0 59", 3120).looks("cell 0 60", 3020);
         flows.refuses("flow 0 0", FULL);
+        flows.call("setGap 9", 10).looks("cell 0 60", 3020).call("setGap 8", 9).looks("cell 0 60", 3020);
+        flows.call("undo", 4).call("undo", 3).looks("cell 0 60", 3020).call("undo", 2).looks("cell 0 60", NONE);
         Story text = sixty(MAP, words, 1);
         text.looks("river 0 3", 60).looks("cell 0 59", 100).looks("cell 0 60", 0).refuses("flow 0 0", FULL);
         text.rejects("river a 0 0 5 0 " + SIXTY + "0;", 16);
-        text.call("undo", 0).loads("river a 0 0 5 0 " + SIXTY.substring(1).replace("4", "2").replace("0", "6") + ";", 1);
+        text.call("undo", 0)
+            .loads("river a 0 0 5 0 " + SIXTY.substring(1).replace("4", "2").replace("0", "6") + ";", 1);
         text.looks("river 0 3", 59).call("flow 0 1", 60).refuses("flow 0 0", FULL);
     }
 

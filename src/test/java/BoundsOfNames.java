@@ -112,7 +112,8 @@ final class BoundsOfNames extends Bounds {
         Story name = story(NAMES, "The bend of a stretch of n successive places is the sum of the turns of all "
             + "successive moves between them (0 with at most 2 places).");
         name.call("addRiver 1 30 20 5 0", 0).looks("bend 0 0 1", 0).looks("river 0 6", 0);
-        name.flow(0, "04").looks("bend 0 0 1", 0).looks("bend 0 2 1", 0).looks("bend 0 0 2", 0).looks("bend 0 1 2", 0);
+        name.flow(0, "04").looks("bend 0 0 1", 0).looks("bend 0 2 1", 0).looks("bend 0 0 2", 0)
+            .looks("bend 0 1 2", 0);
         name.looks("bend 0 0 3", 4).flow(0, "002");
         name.looks("bend 0 1 3", 4).looks("bend 0 2 3", 0).looks("bend 0 3 3", 2);
         name.looks("bend 0 1 4", 4).looks("bend 0 2 4", 2).looks("bend 0 1 5", 6).looks("bend 0 0 6", 10);

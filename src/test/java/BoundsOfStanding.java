@@ -43,7 +43,8 @@ final class BoundsOfStanding extends Bounds {
         all.call("addRiver 2 30 20 5 0", 0).call("addRiver 1 31 20 5 0", 1).flow(0, "000");
         all.call("set 0 2", 0).call("set 1 0", 1).call("addTown 31 20 1 1 5", 0);
         all.looks("reason 0 3", 1).looks("reason 0 0", 2).looks("reason 0 1", 2);
-        all.call("remove 0", 1).looks("reason 0 3", 1).looks("reason 0 0", 3).looks("reason 0 1", 3).looks("reason 0 2", 0);
+        all.call("remove 0", 1).looks("reason 0 3", 1).looks("reason 0 0", 3).looks("reason 0 1", 3)
+            .looks("reason 0 2", 0);
         all.call("setTownRank 0 4", 5).looks("reason 0 0", 4).looks("reason 0 1", 4);
         all.call("setRank 1 4", 5).looks("reason 0 0", 0).looks("reason 0 1", 0);
     }
@@ -53,7 +54,8 @@ final class BoundsOfStanding extends Bounds {
         for (int first = 0; first < 2; first++) {
             int second = 1 - first;
             Story label = story(STANDING, words).call("addRiver 1 30 20 5 0", 0).call("addRiver 1 30 20 6 0", 1);
-            label.call("setRank " + second + " 7", 5 + second).call("set " + first + " 0", 0).call("set " + second + " 0", 1);
+            label.call("setRank " + second + " 7", 5 + second).call("set " + first + " 0", 0)
+                .call("set " + second + " 0", 1);
             label.looks("label 0 6", 4).looks("label 1 6", 0).looks("count 5", 1);
             label.call("setRank " + first + " 7", 5 + first).looks("label 0 6", 4).looks("label 1 6", 4);
             label.call("setRank " + first + " 8", 7).looks("label 0 6", 0).looks("label 1 6", 4);
@@ -162,6 +164,7 @@ final class BoundsOfStanding extends Bounds {
                 }
             }
         }
+        overEndsOfLabels(words);
         for (int rank = 1; rank <= 9; rank += 4) {
             Story label = story(STANDING, words).call("addRiver 1 30 20 " + rank + " 0", 0);
             for (int other = Math.max(1, rank - 1); other <= Math.min(9, rank + 1); other++) {
@@ -171,10 +174,22 @@ final class BoundsOfStanding extends Bounds {
         }
     }
 
+    /** A label with letters on the columns 32 to 34 of a river that has the columns 30 to 36. */
+    private void overEndsOfLabels(String words) {
+        Story label = story(STANDING, words).call("addRiver 3 30 20 5 0", 0).flow(0, "000000").call("set 0 2", 0);
+        for (int column = 30; column <= 36; column++) {
+            int due = column >= 32 && column <= 34 ? 4 : 0;
+            label.branch().call("addRiver 1 " + column + " 20 5 0", 1).looks("reason 1 0", due)
+                .looks("best 1 0", due == 0 ? 0 : NONE).looks("rankFor 1", due == 0 ? 1 : 6)
+                .call("setRank 1 6", 5).call("set 1 0", 1).looks("label 0 6", due);
+        }
+    }
+
     private void besideLabelsOfTheSameRiver() {
         Story label = story(STANDING, "a label of another river");
         label.call("addRiver 2 30 20 1 2", 0).flow(0, "040").call("setGap 0", 10).call("set 0 0", 0);
-        label.looks("reason 0 2", 0).call("set 0 2", 1).looks("label 0 6", 0).looks("label 1 6", 0).looks("count 5", 0);
+        label.looks("reason 0 2", 0).call("set 0 2", 1).looks("label 0 6", 0).looks("label 1 6", 0)
+            .looks("count 5", 0);
     }
 
     private void bestStarts() {
@@ -198,5 +213,10 @@ final class BoundsOfStanding extends Bounds {
         label.branch().call("set 0 30", 0).looks("best 0 0", NONE).looks("best 0 1", NONE);
         label.call("setGap 29", 59).call("set 0 30", 0).looks("best 0 0", 0).looks("best 0 1", 60);
         label.call("set 0 0", 1).looks("best 0 0", 60);
+        Story last = story(STANDING, "The best start of a river is the one with the smallest cost of all labels of it");
+        last.call("addRiver 1 0 0 5 0", 0).flow(0, "0".repeat(59) + "2").call("setGap 59", 10).call("set 0 0", 0);
+        last.call("addTown 59 1 1 1 4", 0).looks("best 0 0", 60).looks("best 0 1", 60).looks("rankFor 0", 5);
+        last.call("setTownRank 0 5", 4).looks("best 0 0", NONE).looks("reason 0 60", 3).looks("rankFor 0", 6);
+        last.call("setTownRank 0 9", 5).looks("best 0 0", NONE).looks("rankFor 0", NONE).refuses("set 0 60", STATE);
     }
 }

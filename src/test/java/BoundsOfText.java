@@ -58,7 +58,8 @@ final class BoundsOfText extends Bounds {
         text.wouldLoad("", 0).wouldLoad(" ", 0).wouldLoad("town 0 0 1 1 1;", 1);
         text.wouldLoad("town 0 0 1 1 1;town 0 0 1 1 1;", 2);
         text.rejects(";", 0).rejects(" ;", 1).rejects("town 0 0 1 1 1;;", 15).rejects("town 0 0 1 1 1", 14);
-        text.rejects("town 0 0 1 1 1 town 0 0 1 1 1;", 15).rejects("town 0 0 1 1 1,", 14).rejects("town 0 0 1 1 1:", 14);
+        text.rejects("town 0 0 1 1 1 town 0 0 1 1 1;", 15).rejects("town 0 0 1 1 1,", 14)
+            .rejects("town 0 0 1 1 1:", 14);
         text.branch().call("load", 0).looks("count 0", 1).looks("count 1", 1).looks("count 2", 1);
     }
 
@@ -106,7 +107,8 @@ final class BoundsOfText extends Bounds {
         text.rejects("river a 9 9 1 0;", 15).rejects("river a 9 9 1 0 ;", 16);
         text.rejects("river a 9 9 1 0 8;", 16).rejects("river a 9 9 1 0 9;", 16).rejects("river a 9 9 1 0 078;", 16);
         text.rejects("river a 9 9 1 0 /;", 16).rejects("river a 9 9 1 0 :;", 16).rejects("river a 9 9 1 0 0/;", 17);
-        text.rejects("river a 9 9 1 0 0:;", 17).rejects("river a 9 9 1 0 0 0;", 18).rejects("river a 9 9 1 0 0a;", 17);
+        text.rejects("river a 9 9 1 0 0:;", 17).rejects("river a 9 9 1 0 0 0;", 18)
+            .rejects("river a 9 9 1 0 0a;", 17);
     }
 
     private void numbers() {
@@ -155,16 +157,19 @@ final class BoundsOfText extends Bounds {
 
     private void otherWords() {
         Story text = desk("because it is another word,");
-        for (String word : new String[] {"r", "rive", "rivers", "riverriver", "riven", "sriver", "tow", "towns", "town" + "river",
-            "city", "abcdefghijklmnopqrstuvwxyz"}) {
-            text.rejects(word + " a 0 0 1 0 0;", 0).rejects(" " + word + ";", 1).rejects("town 0 0 1 1 1;" + word, 15);
+        String[] words = {"r", "rive", "rivers", "riverriver", "sriver", "liver", "raver", "rider", "rivar", "riven", "rivre",
+            "t", "tow", "towns", "townriver", "stown", "down", "tawn", "toan", "towm", "twon", "city", "zzzzzzzzzzzzz"};
+        for (String word : words) {
+            text.rejects(word + " a 0 0 1 0 0;", 0).rejects(" " + word + ";", 1)
+                .rejects("town 0 0 1 1 1;" + word, 15);
         }
     }
 
     private void otherCharacters() {
         Story text = desk("any other character,");
         for (char sign : new char[] {1, '!', '"', ',', '-', '.', '/', ':', '?', '@', 'A', 'Z', '[', '`', '{', 127, 128, 255}) {
-            text.rejects(sign + "", 0).rejects(sign + "river a 0 0 1 0 0;", 0).rejects("river" + sign + "a 0 0 1 0 0;", 5);
+            text.rejects(sign + "", 0).rejects(sign + "river a 0 0 1 0 0;", 0)
+                .rejects("river" + sign + "a 0 0 1 0 0;", 5);
             text.rejects("river a" + sign + "0 0 1 0 0;", 7).rejects("river a 0 0 1 0" + sign + "0;", 15);
             text.rejects("river a 0 0 1 0 0" + sign + ";", 17).rejects("river a 0 0 1 0 0;" + sign, 18);
         }
@@ -228,10 +233,12 @@ final class BoundsOfText extends Bounds {
         digits.rejects("river a 9 9 1 0 00000008;", 16).rejects("river a 9 9 1 0 80;", 16);
         digits.wouldLoad("river a 9 9 1 0 00000007;", 1);
         Story cells = desk("or with which a cell would lie outside of the map;");
-        cells.wouldLoad("river a 58 9 1 0 0;", 1).rejects("river a 58 9 1 0 00;", 17).rejects("river a 59 9 1 0 0;", 17);
+        cells.wouldLoad("river a 58 9 1 0 0;", 1).rejects("river a 58 9 1 0 00;", 17)
+            .rejects("river a 59 9 1 0 0;", 17);
         cells.wouldLoad("river a 1 9 1 0 4;", 1).rejects("river a 1 9 1 0 44;", 16).rejects("river a 0 9 1 0 4;", 16);
         cells.wouldLoad("river a 9 1 1 0 6;", 1).rejects("river a 9 1 1 0 66;", 16).rejects("river a 9 0 1 0 6;", 16);
-        cells.wouldLoad("river a 9 38 1 0 2;", 1).rejects("river a 9 38 1 0 22;", 17).rejects("river a 9 39 1 0 2;", 17);
+        cells.wouldLoad("river a 9 38 1 0 2;", 1).rejects("river a 9 38 1 0 22;", 17)
+            .rejects("river a 9 39 1 0 2;", 17);
         cells.rejects("river a 0 9 1 0 40;", 16).wouldLoad("river a 0 9 1 0 04;", 1);
         cells.rejects("river a 0 0 1 0 " + SIXTY.substring(1) + ";", 16);
     }
@@ -255,7 +262,8 @@ final class BoundsOfText extends Bounds {
         some.wouldLoad("town 0 0 1 1 1;".repeat(9), 9).rejects("town 0 0 1 1 1;".repeat(10), 135);
         some.loads("river a 0 0 1 0 0;".repeat(5), 5).rejects("river a 0 0 1 0 0;", 0).rejects(" river 5 5 5", 1);
         some.wouldLoad("town 0 0 1 1 1;", 1).rejects("town 0 0 1 1 1;river", 15);
-        some.loads("town 0 0 1 1 1;".repeat(9), 9).rejects("town 0 0 1 1 1;", 0).rejects("river", 0).rejects(" town", 1);
+        some.loads("town 0 0 1 1 1;".repeat(9), 9).rejects("town 0 0 1 1 1;", 0).rejects("river", 0)
+            .rejects(" town", 1);
         some.wouldLoad("", 0).rejects("x", 0);
     }
 
@@ -266,7 +274,8 @@ final class BoundsOfText extends Bounds {
         text.rejects("river a 0 40", 10).rejects("river a 0 0 0", 12).rejects("river a 0 0 10", 12);
         text.rejects("river a 0 0 1 3", 14).rejects("river a 0 0 1 0 8", 16).rejects("river a 0 0 1 0 4", 16);
         text.rejects("river a 0 0 1 0 " + SIXTY + "0", 16).rejects("river a 0 0 1 0 0 0", 18);
-        text.rejects("river a 0 0 1 0 0 x", 18).rejects("town 60", 5).rejects("town 0 40", 7).rejects("town 0 0 13", 9);
+        text.rejects("river a 0 0 1 0 0 x", 18).rejects("town 60", 5).rejects("town 0 40", 7)
+            .rejects("town 0 0 13", 9);
         text.rejects("town 49 0 12", 10).rejects("town 0 0 1 4", 11).rejects("town 0 39 1 2", 12);
         text.rejects("town 0 0 1 1 0", 13).rejects("town 0 0 1 1 10", 13).rejects("town 0 0 1 1 1 1", 15);
         text.rejects("town 0 0 1 1 1;;", 15);

@@ -42,10 +42,12 @@ final class BoundsOfUndo extends Bounds {
     private void sixthState() {
         Story undo = story(UNDO, "when a sixth one is recorded, the oldest one is dropped.");
         undo.call("setGap 1", 10).call("setGap 2", 1).call("setGap 3", 2).call("setGap 4", 3).call("setGap 5", 4);
-        undo.branch().call("undo", 4).call("undo", 3).call("undo", 2).call("undo", 1).call("undo", 0).looks("count 3", 10)
+        undo.branch().call("undo", 4).call("undo", 3).call("undo", 2).call("undo", 1).call("undo", 0)
+            .looks("count 3", 10)
             .refuses("undo", STATE);
         undo.call("setGap 6", 5).looks("count 8", 5);
-        undo.branch().call("undo", 4).call("undo", 3).call("undo", 2).call("undo", 1).call("undo", 0).looks("count 3", 1)
+        undo.branch().call("undo", 4).call("undo", 3).call("undo", 2).call("undo", 1).call("undo", 0)
+            .looks("count 3", 1)
             .refuses("undo", STATE);
         undo.call("addTown 0 0 1 1 1", 0).looks("count 8", 5);
         undo.call("undo", 4).looks("count 1", 0).looks("count 3", 6);
@@ -69,7 +71,8 @@ final class BoundsOfUndo extends Bounds {
         undo.write("town 1 1 1 1 1").call("setGap 3", 10).call("append 59", 15).call("undo", 0).looks("count 9", 15);
         undo.call("load", 1).looks("count 9", 0).call("undo", 0).looks("count 9", 0).looks("count 1", 0);
         undo.write("ab").call("setGap 4", 10).call("clearText", 2).call("undo", 0).looks("count 9", 0);
-        undo.call("setGap 5", 10).write("x".repeat(150)).call("undo", 0).looks("count 9", 150).refuses("append 1", FULL);
+        undo.call("setGap 5", 10).write("x".repeat(150)).call("undo", 0).looks("count 9", 150)
+            .refuses("append 1", FULL);
     }
 
     private void allActions(Story undo) {
@@ -85,8 +88,10 @@ final class BoundsOfUndo extends Bounds {
         full.looks("count 8", 5);
         allActions(full);
         allActions(full.branch().call("undo", 4).call("set 0 10", 2));
-        Story spare = full.branch().call("undo", 4).call("undo", 3).call("undo", 2).call("set 1 2", 0).call("set 0 0", 1);
-        spare.isAction("addTown 0 0 12 3 9", 2).isAction("remove 1", 1).isAction("set 0 10", 2).isAction("flow 0 2", 13);
+        Story spare = full.branch().call("undo", 4).call("undo", 3).call("undo", 2).call("set 1 2", 0)
+            .call("set 0 0", 1);
+        spare.isAction("addTown 0 0 12 3 9", 2).isAction("remove 1", 1).isAction("set 0 10", 2)
+            .isAction("flow 0 2", 13);
         full.branch().call("setGap 40", 2).isAction("tidy", 1);
         story(UNDO, words).write("river a 0 0 1 0 0;").isAction("load", 1).isAction("addRiver 1 0 0 1 0", 0)
             .isAction("addTown 0 0 1 1 1", 0).isAction("setGap 0", 10);
@@ -94,10 +99,13 @@ final class BoundsOfUndo extends Bounds {
 
     private void actionsWithoutEffectAreRecorded() {
         String words = "Every successful call of a method that is called an action records the state before it;";
-        Story bare = story(UNDO, words).isAction("load", 0).isAction("place 1", 0).isAction("tidy", 0).isAction("setGap 10", 10);
-        bare.call("load", 0).looks("count 8", 1).call("tidy", 0).looks("count 8", 2).call("place 5", 0).looks("count 8", 3);
+        Story bare = story(UNDO, words).isAction("load", 0).isAction("place 1", 0).isAction("tidy", 0)
+            .isAction("setGap 10", 10);
+        bare.call("load", 0).looks("count 8", 1).call("tidy", 0).looks("count 8", 2).call("place 5", 0)
+            .looks("count 8", 3);
         Story scene = scene(UNDO, words);
-        scene.isAction("setRank 0 5", 5).isAction("setHalo 0 1", 1).isAction("setTownRank 1 9", 9).isAction("setGap 2", 2);
+        scene.isAction("setRank 0 5", 5).isAction("setHalo 0 1", 1).isAction("setTownRank 1 9", 9)
+            .isAction("setGap 2", 2);
         scene.isAction("tidy", 0);
     }
 
@@ -113,7 +121,8 @@ final class BoundsOfUndo extends Bounds {
     private void latestStateIsRestored() {
         Story undo = scene(UNDO, "undo() removes the latest state from the history and restores it.");
         undo.call("remove 0", 2).call("undo", 4).looks("label 0 1", 0).looks("label 1 0", 1).looks("label 2 1", 10);
-        undo.call("undo", 3).looks("count 2", 2).call("undo", 2).looks("count 2", 1).call("undo", 1).looks("count 2", 0);
+        undo.call("undo", 3).looks("count 2", 2).call("undo", 2).looks("count 2", 1).call("undo", 1)
+            .looks("count 2", 0);
         undo.looks("count 3", 2).call("undo", 0).looks("count 3", 10).refuses("undo", STATE);
         undo.call("set 0 0", 0).looks("count 8", 1).call("undo", 0).looks("count 2", 0).refuses("undo", STATE);
     }
@@ -123,8 +132,10 @@ final class BoundsOfUndo extends Bounds {
         error.refuses("append 0", WRONG).refuses("addRiver 0 0 0 1 0", WRONG).refuses("addTown 60 0 1 1 1", WRONG);
         error.refuses("flow 2 0", WRONG).refuses("setRank 0 10", WRONG).refuses("setHalo 0 3", WRONG);
         error.refuses("setTownRank 2 1", WRONG).refuses("setGap 61", WRONG).refuses("set 0 61", WRONG);
-        error.refuses("set 0 4", STATE).refuses("remove 3", WRONG).refuses("place 0", WRONG).refuses("place 6", WRONG);
-        error.refuses("count 10", WRONG).refuses("river 2 0", WRONG).refuses("cell 0 61", WRONG).refuses("letter 0 -1", WRONG);
+        error.refuses("set 0 4", STATE).refuses("remove 3", WRONG).refuses("place 0", WRONG)
+            .refuses("place 6", WRONG);
+        error.refuses("count 10", WRONG).refuses("river 2 0", WRONG).refuses("cell 0 61", WRONG)
+            .refuses("letter 0 -1", WRONG);
         error.refuses("town 2 0", WRONG).refuses("label 3 0", WRONG).refuses("written 60 0", WRONG);
         error.refuses("bend 0 0 62", WRONG).refuses("straightest 0 0", WRONG).refuses("reason 0 61", WRONG);
         error.refuses("best 0 2", WRONG).refuses("rankFor 2", WRONG);
@@ -136,7 +147,8 @@ final class BoundsOfUndo extends Bounds {
     private void firstErrorOfTexts() {
         String words = "If several error conditions apply, the method returns the one that its description lists first;";
         Story error = story(ERRORS, words).write("x".repeat(149));
-        error.refuses("append 0", WRONG).call("append 255", 150).refuses("append 0", WRONG).refuses("append 256", WRONG);
+        error.refuses("append 0", WRONG).call("append 255", 150).refuses("append 0", WRONG)
+            .refuses("append 256", WRONG);
         error.refuses("append 1", FULL).refuses("append 255", FULL);
     }
 
@@ -144,41 +156,51 @@ final class BoundsOfUndo extends Bounds {
         Story error = story(ERRORS, "If several error conditions apply, the method returns the one that its description "
             + "lists first;");
         error.loads("river a 0 0 5 0 " + SIXTY + ";", 1);
-        error.refuses("flow 0 4", STATE).refuses("flow 0 0", FULL).refuses("flow 0 8", WRONG).refuses("flow 1 4", WRONG);
+        error.refuses("flow 0 4", STATE).refuses("flow 0 0", FULL).refuses("flow 0 8", WRONG)
+            .refuses("flow 1 4", WRONG);
         for (int river = 1; river < 6; river++) {
             error.call("addRiver 1 0 0 1 0", river);
         }
-        error.refuses("addRiver 0 0 0 1 0", WRONG).refuses("addRiver 1 60 0 1 0", WRONG).refuses("addRiver 1 0 40 1 0", WRONG);
-        error.refuses("addRiver 1 0 0 10 0", WRONG).refuses("addRiver 1 0 0 1 3", WRONG).refuses("addRiver 1 0 0 1 0", FULL);
+        error.refuses("addRiver 0 0 0 1 0", WRONG).refuses("addRiver 1 60 0 1 0", WRONG)
+            .refuses("addRiver 1 0 40 1 0", WRONG);
+        error.refuses("addRiver 1 0 0 10 0", WRONG).refuses("addRiver 1 0 0 1 3", WRONG)
+            .refuses("addRiver 1 0 0 1 0", FULL);
         for (int town = 0; town < 10; town++) {
             error.call("addTown 0 0 1 1 1", town);
         }
-        error.refuses("addTown 60 0 1 1 1", WRONG).refuses("addTown 0 0 1 1 0", WRONG).refuses("addTown 59 0 2 1 1", WRONG);
+        error.refuses("addTown 60 0 1 1 1", WRONG).refuses("addTown 0 0 1 1 0", WRONG)
+            .refuses("addTown 59 0 2 1 1", WRONG);
         error.refuses("addTown 0 39 1 2 1", WRONG).refuses("addTown 0 0 1 1 1", FULL);
     }
 
     private void firstErrorOfLabels() {
         Story error = story(ERRORS, "If several error conditions apply, the method returns the one that its description "
             + "lists first;");
-        error.call("setGap 0", 10).call("addRiver 1 0 0 5 0", 0).flow(0, "0".repeat(21)).call("addTown 21 0 1 1 9", 0);
+        error.call("setGap 0", 10).call("addRiver 1 0 0 5 0", 0).flow(0, "0".repeat(21))
+            .call("addTown 21 0 1 1 9", 0);
         error.refuses("set 0 21", STATE).refuses("set 0 61", WRONG);
         for (int i = 0; i < 20; i++) {
             error.call("set 0 " + i, i);
         }
-        error.refuses("set 0 20", FULL).refuses("set 0 21", STATE).refuses("set 0 19", STATE).refuses("set 0 22", STATE);
-        error.refuses("set 0 60", STATE).refuses("set 0 61", WRONG).refuses("set 0 -1", WRONG).refuses("set 1 20", WRONG);
+        error.refuses("set 0 20", FULL).refuses("set 0 21", STATE).refuses("set 0 19", STATE)
+            .refuses("set 0 22", STATE);
+        error.refuses("set 0 60", STATE).refuses("set 0 61", WRONG).refuses("set 0 -1", WRONG)
+            .refuses("set 1 20", WRONG);
     }
 
     private void noneBehindErrors() {
         Story none = scene(ERRORS, "NONE is no error, and it is returned only if no error condition applies.");
-        none.refuses("cell 0 13", NONE).refuses("cell 0 60", NONE).refuses("cell 0 61", WRONG).refuses("cell 2 60", WRONG);
-        none.refuses("cell -1 60", WRONG).refuses("letter 0 3", NONE).refuses("letter 2 3", WRONG).refuses("letter 0 -1", WRONG);
+        none.refuses("cell 0 13", NONE).refuses("cell 0 60", NONE).refuses("cell 0 61", WRONG)
+            .refuses("cell 2 60", WRONG);
+        none.refuses("cell -1 60", WRONG).refuses("letter 0 3", NONE).refuses("letter 2 3", WRONG)
+            .refuses("letter 0 -1", WRONG);
         none.refuses("written 0 39", NONE).refuses("written 0 40", WRONG).refuses("written 60 39", WRONG);
         none.refuses("bend 0 60 61", NONE).refuses("bend 0 61 61", WRONG).refuses("bend 0 60 62", WRONG);
         none.refuses("bend 2 60 61", WRONG).refuses("bend 0 60 0", WRONG).refuses("bend 0 -1 61", WRONG);
         none.refuses("straightest 0 61", NONE).refuses("straightest 0 62", WRONG).refuses("straightest 2 61", WRONG);
         none.call("setGap 60", 2).refuses("best 0 0", NONE).refuses("best 0 1", NONE).refuses("best 0 2", WRONG);
-        none.refuses("best 0 -1", WRONG).refuses("best 2 0", WRONG).refuses("rankFor 0", NONE).refuses("rankFor 2", WRONG);
+        none.refuses("best 0 -1", WRONG).refuses("best 2 0", WRONG).refuses("rankFor 0", NONE)
+            .refuses("rankFor 2", WRONG);
     }
 
     private void meanings() {
@@ -190,7 +212,8 @@ final class BoundsOfUndo extends Bounds {
         Story full = story(ERRORS, "CAPACITY_EXCEEDED = -3: There is no room.").write("x".repeat(150));
         full.refuses("append 120", -3);
         Story none = story(ERRORS, "NONE = -9: There is no such value.");
-        none.refuses("written 0 0", -9).call("addRiver 1 0 0 1 0", 0).refuses("cell 0 1", -9).refuses("letter 0 1", -9);
+        none.refuses("written 0 0", -9).call("addRiver 1 0 0 1 0", 0).refuses("cell 0 1", -9)
+            .refuses("letter 0 1", -9);
     }
 
     private void lastOf512Calls() {

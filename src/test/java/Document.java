@@ -7,12 +7,13 @@ import java.util.Map;
 
 /** The document, section by section, and which of its words a test has quoted. Read from the project's folder. */
 final class Document {
+    private static final Path FILE = Path.of("../shared/DOC.md");
     private final Map<String, String> sections = new LinkedHashMap<>();
     private final Map<String, BitSet> quoted = new LinkedHashMap<>();
 
     Document() throws IOException {
         String section = "";
-        for (String line : Files.readAllLines(Path.of("../shared/DOC.md"))) {
+        for (String line : Files.readAllLines(FILE)) {
             if (line.startsWith("#")) {
                 section = line.replaceFirst("^#+ ", "").replaceFirst("^(Promise [0-9]+):.*", "$1");
                 sections.put(section, "");
