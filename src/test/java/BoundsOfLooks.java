@@ -111,8 +111,8 @@ final class BoundsOfLooks extends Bounds {
         cells.looks("river 0 5", 1).flow(0, "0").looks("river 0 5", 2).flow(0, "4").looks("river 0 5", 2);
         cells.flow(0, "4").looks("river 0 5", 3).flow(0, "60").looks("river 0 5", 5).flow(0, "2")
             .looks("river 0 5", 5);
-        cells.call("set 0 0", 0).call("river 0 5", 5).call("count 7", 1).call("label 0 5", 1).call("river 0 5", 5);
-        cells.call("count 7", 1).call("river 0 5", 5).call("label 0 5", 1).call("count 7", 1);
+        cells.call("setHalo 0 1", 0).call("set 0 0", 0).call("river 0 5", 5).call("count 7", 9).call("river 0 5", 5);
+        cells.call("label 0 5", 9).call("river 0 5", 5).call("label 0 5", 9).call("count 7", 9);
         Story all = story("Promise 18", "5 the number of different cells of its places,")
             .call("addRiver 1 0 0 5 0", 0);
         all.flow(0, "0".repeat(59)).looks("river 0 5", 60).call("flow 0 2", 60).looks("river 0 5", 61);

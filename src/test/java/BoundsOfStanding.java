@@ -138,6 +138,11 @@ final class BoundsOfStanding extends Bounds {
             label.branch().call("addTown 17 17 12 3 9", 0).looks("reason 0 0", 0);
             label.branch().call("addTown 18 16 12 3 9", 0).looks("reason 0 0", 0);
         }
+        Story ends = story(STANDING, words).call("addRiver 3 30 20 5 0", 0).flow(0, "000");
+        ends.branch().call("addTown 33 20 1 1 9", 0).looks("reason 0 0", 0).looks("reason 0 1", 3)
+            .looks("best 0 0", 0).looks("rankFor 0", 1);
+        ends.branch().call("addTown 30 20 1 1 9", 0).looks("reason 0 0", 3).looks("reason 0 1", 0)
+            .looks("best 0 0", 1).looks("rankFor 0", 1);
         Story last = story(STANDING, words).call("addRiver 3 30 20 5 0", 0).flow(0, "000");
         for (int town = 0; town < 9; town++) {
             last.call("addTown 30 20 4 1 4", town).looks("reason 0 0", 0);
