@@ -51,7 +51,7 @@ public final class CommandTest {
     }
 
     private Shell run() throws IOException, InterruptedException {
-        return new Shell(project, ".ci/run 2>&1");
+        return new Shell(project, "sh .ci/run 2>&1");
     }
 
     private void fails(String why) throws IOException, InterruptedException {
